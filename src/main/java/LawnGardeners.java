@@ -585,7 +585,8 @@ public final class LawnGardeners {
     private int makeSteps(int many) {
         int before = story.lawn.allGoings();
         for (int made = 0; made < many; made++) {
-            story.makeStep();
+            story.keepLawn();
+            story.lawn.moveAll();
         }
         return story.lawn.allGoings() - before;
     }
@@ -1064,7 +1065,7 @@ public final class LawnGardeners {
             return stepsBack > 0 ? pastAt(stepsBack - 1) : null;
         }
 
-        void makeStep() {
+        void keepLawn() {
             if (stepsBack >= MOST_STEPS_BACK) {
                 oldest = Math.floorMod(oldest + 1, MOST_STEPS_BACK);
                 stepsBack--;
@@ -1074,7 +1075,6 @@ public final class LawnGardeners {
                 kept.copyFrom(lawn);
                 stepsBack++;
             }
-            lawn.moveAll();
         }
 
         int takeStepBack() {
