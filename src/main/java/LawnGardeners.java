@@ -1057,7 +1057,7 @@ public final class LawnGardeners {
 
         private Lawn pastAt(int place) {
             int slot = Math.floorMod(oldest + place, MOST_STEPS_BACK);
-            return slot < past.length ? past[slot] : null;
+            return slot >= 0 && slot < past.length ? past[slot] : null;
         }
 
         /** Null if no step can be taken back. */
@@ -1106,7 +1106,7 @@ public final class LawnGardeners {
 
         private Story storyAt(int place) {
             int slot = Math.floorMod(oldest + place, MOST_CHANGES);
-            return slot < slots.length ? slots[slot] : null;
+            return slot >= 0 && slot < slots.length ? slots[slot] : null;
         }
 
         void push(Story before) {

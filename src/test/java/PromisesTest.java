@@ -51,6 +51,14 @@ public final class PromisesTest {
         return lawn;
     }
 
+    /** A lawn behind a text. */
+    private static LawnGardeners made(String text) {
+        LawnGardeners lawn = new LawnGardeners();
+        int orders = text.split(";").length;
+        Check.due(text, orders, () -> Check.run(lawn, text));
+        return lawn;
+    }
+
     private static void refusedFor(String what, LawnGardeners lawn, int reason, int detail) {
         Check.due(what + ": reason", reason, () -> lawn.refusal(false));
         Check.due(what + ": detail", detail, () -> lawn.refusal(true));
@@ -415,6 +423,10 @@ public final class PromisesTest {
         apart.hoe(4, 4, 1);
         apart.step(1);
         Check.due("13: by the manner 1 without a meeting", true, apart::isInverse);
+        LawnGardeners coloursFit = made("t0=L;t1=U;h45u;h54r;h53d;h33r;s1;m2;s1");
+        Check.due("13: the colours alone fit", false, coloursFit::isInverse);
+        LawnGardeners headingsFit = made("t0=U;t1=N;h35u;h45r;h43r;h33d;s3;m2;s1");
+        Check.due("13: the colours and headings alone fit", false, headingsFit::isInverse);
     }
 
     private static void trail() {
@@ -538,6 +550,13 @@ public final class PromisesTest {
         Check.due("23: never", NOTHING, lawn::meetIn);
         LawnGardeners wait = facing(1);
         Check.due("22: by the manner 1", 400, () -> wait.willMeet(200));
+        LawnGardeners late = made("k3;t0=L;h14l;h25r;s37");
+        Check.due("23: in the last of 200 steps", 200, late::meetIn);
+        Check.due("22: in that step", 0, () -> late.willMeet(199));
+        Check.due("22: with that step", true, () -> late.willMeet(200) > 0);
+        late.back();
+        Check.due("23: a step too late", NOTHING, late::meetIn);
+        Check.due("22: a step too late", 0, () -> late.willMeet(200));
     }
 
     private static void isBackIn() {
@@ -552,6 +571,13 @@ public final class PromisesTest {
         Check.due("24: round the lawn", 9, () -> straight.isBackIn(0));
         LawnGardeners wait = facing(1);
         Check.due("24: a hoe that waits", 1, () -> wait.isBackIn(0));
+        LawnGardeners late = made("k4;t0=L;t3=U;h06u;s30");
+        Check.due("24: behind the last of 200 steps", 200, () -> late.isBackIn(0));
+        LawnGardeners tooLate = made("t0=N;t1=R;h83l;h42u;s39");
+        int there = tooLate.willBe(0, 0);
+        Check.due("24: behind 201 steps", NOTHING, () -> tooLate.isBackIn(0));
+        tooLate.step(1);
+        Check.due("21: there behind 201 steps", there, () -> tooLate.willBe(0, 200));
     }
 
     private static void highway() {
@@ -575,6 +601,10 @@ public final class PromisesTest {
         stairs.paint(2, 7, 0);
         Check.due("25: not 2, the last turn is another", true,
             () -> !"2".equals(Check.answer(() -> stairs.highway(0))));
+        LawnGardeners longest = made("t0=U;t1=N;m1;p87=1;h47d;h07d;s29");
+        Check.due("25: the longest", 40, () -> longest.highway(0));
+        LawnGardeners tooLong = made("k3;t0=U;t2=L;m2;h03l;h61r;h02l;h70d;s36");
+        Check.due("25: one of 41 is too long", NOTHING, () -> tooLong.highway(0));
     }
 
     private static void ranked() {
