@@ -1,9 +1,18 @@
+import java.util.Set;
+import java.util.TreeSet;
 import java.util.concurrent.Callable;
 
 /** Compares answers with those that are due; a call that throws answers with the exception's name. */
 final class Check {
+    static final String NO_PLACE = "IndexOutOfBoundsException";
+    static final String NO_NUMBER = "IllegalArgumentException";
+    static final String REFUSED = "UnsupportedOperationException";
+    static final String NOTHING = "NoSuchElementException";
+    static final String NOT_NOW = "IllegalStateException";
+
     private static int passed = 0;
     private static int failed = 0;
+    private static final Set<String> promises = new TreeSet<>();
 
     private Check() {
     }
@@ -16,8 +25,10 @@ final class Check {
         }
     }
 
+    /** What begins with the number of the promise and a colon, if it is about one. */
     static void due(String what, Object want, Callable<?> call) {
         String got = answer(call);
+        promises.add(what.split(":")[0]);
         if (got.equals(String.valueOf(want))) {
             passed++;
         } else {
@@ -40,6 +51,14 @@ final class Check {
             line.append(lawn.character(i));
         }
         return line.toString();
+    }
+
+    /** Fails for each promise from the first to the last one that nothing so far was about. */
+    static void eachPromise(int first, int last) {
+        for (int promise = first; promise <= last; promise++) {
+            String number = String.valueOf(promise);
+            due("there is a test of promise " + number, true, () -> promises.contains(number));
+        }
     }
 
     static void end() {
