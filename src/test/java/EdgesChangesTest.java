@@ -235,7 +235,8 @@ public final class EdgesChangesTest {
                 change(lawn, kind);
                 Check.due("34: a change of kind " + kind, 2, () -> lawn.account(10));
                 Check.due("38: one less", 1, lawn::undo);
-                Check.due("38: undone, kind " + kind + ", " + look, Lawns.look(look, two()), () -> Lawns.look(look, lawn));
+                String due = Lawns.look(look, two());
+                Check.due("38: undone, kind " + kind + ", " + look, due, () -> Lawns.look(look, lawn));
             }
         }
     }
@@ -317,7 +318,8 @@ public final class EdgesChangesTest {
                 change(lawn, kind);
                 Check.due("40: hoes behind kind " + kind, 3, lawn::restore);
                 Check.due("34: steps taken back, as it was", 2, () -> lawn.account(5));
-                Check.due("40: restored, kind " + kind + ", " + look, Lawns.look(look, two()), () -> Lawns.look(look, lawn));
+                String due = Lawns.look(look, two());
+                Check.due("40: restored, kind " + kind + ", " + look, due, () -> Lawns.look(look, lawn));
             }
         }
     }
@@ -372,7 +374,8 @@ public final class EdgesChangesTest {
         lawn.colours(4);
         Check.due("40: no hoes", 0, lawn::restore);
         for (String look : new String[] {"lawn", "counts"}) {
-            Check.due("40: as a new lawn, " + look, Lawns.look(look, new LawnGardeners()), () -> Lawns.look(look, lawn));
+            String due = Lawns.look(look, new LawnGardeners());
+            Check.due("40: as a new lawn, " + look, due, () -> Lawns.look(look, lawn));
         }
         Check.due("40: no trail", Check.NOTHING, () -> lawn.trail(0));
         Check.due("40: no step", Check.NOTHING, lawn::isInverse);

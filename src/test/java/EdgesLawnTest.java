@@ -95,7 +95,8 @@ public final class EdgesLawnTest {
         for (int wrong : Lawns.outside(0, 8)) {
             Lawns.unchangedOnAll("2: row " + wrong, Check.NO_PLACE, lawn -> lawn.hoe(wrong, 0, 0));
             Lawns.unchangedOnAll("2: column " + wrong, Check.NO_PLACE, lawn -> lawn.hoe(0, wrong, 3));
-            Lawns.unchangedOnAll("2: row " + wrong + " ahead of the heading", Check.NO_PLACE, lawn -> lawn.hoe(wrong, 8, 4));
+            Lawns.unchangedOnAll("2: row " + wrong + " ahead of the heading", Check.NO_PLACE,
+                lawn -> lawn.hoe(wrong, 8, 4));
             Lawns.unchangedOnAll("2: column " + wrong + " ahead of the heading", Check.NO_PLACE,
                 lawn -> lawn.hoe(8, wrong, -1));
         }

@@ -430,7 +430,7 @@ public final class EdgesStepsTest {
         for (int wrong : Lawns.outside(0, 11)) {
             Lawns.unchangedOnAll("14: place " + wrong, Check.NOTHING, lawn -> lawn.trail(wrong));
         }
-        Lawns.unchanged("14: behind the last of one", Check.NOTHING, () -> Lawns.made("h44u;s1"), lawn -> lawn.trail(1));
+        Lawns.unchanged("14: behind the only one", Check.NOTHING, () -> Lawns.made("h44u;s1"), lawn -> lawn.trail(1));
         Lawns.unchanged("14: a look changes nothing", 40, () -> Lawns.made("h44u;s1"), lawn -> lawn.trail(0));
     }
 
@@ -467,6 +467,13 @@ public final class EdgesStepsTest {
         Check.due("14: painted again and again", 2, () -> wait.account(8));
         Check.due("14: the latest", 0, () -> wait.trail(0));
         Check.due("14: the other", 8, () -> wait.trail(1));
+        LawnGardeners pair = Lawns.made("t0=N;t1=N;h43r;h45l;s2");
+        int[] cells = {40, 41, 39};
+        Check.due("14: two hoes on a cell paint it one behind the other", 3, () -> pair.account(8));
+        for (int place = 0; place < 3; place++) {
+            int it = place;
+            Check.due("14: that cell once: place " + place, cells[place], () -> pair.trail(it));
+        }
         LawnGardeners lawn = Lawns.straight();
         lawn.hoe(0, 0, 1);
         lawn.step(9);

@@ -56,7 +56,7 @@ final class Lawns {
         return lawn;
     }
 
-    /** No more hoes, colours, changes, steps that can be taken back or cells of the trail can be; the input is empty. */
+    /** No more hoes, colours, changes, steps to be taken back or cells of the trail can be; the input is empty. */
     static LawnGardeners full() {
         LawnGardeners lawn = made("k4;t2=U;h44u;h20r;h63d;h88l;s20");
         lawn.save();
@@ -125,7 +125,8 @@ final class Lawns {
             case "turns": return turns(lawn);
             case "past": return past(lawn);
             case "changes": return changes(lawn);
-            case "snapshot": return Check.answer(lawn::restore) + accounts(lawn, 0, 1, 2, 3, 4, 5, 6, 7, 8, 10) + hoes(lawn);
+            case "snapshot":
+                return Check.answer(lawn::restore) + accounts(lawn, 0, 1, 2, 3, 4, 5, 6, 7, 8, 10) + hoes(lawn);
             case "line": return line(lawn);
             case "input": return input(lawn);
             case "error": return "" + lawn.errorPosition();
