@@ -722,6 +722,7 @@ public final class LawnGardeners {
         private final int[] hoeHeadings = new int[MOST_HOES];
         private final int[] hoeGoings = new int[MOST_HOES];
         private final int[] hoeMeetings = new int[MOST_HOES];
+        // Each step writes the turns that its hoes take before they are read: no copy needs them.
         private final int[] latestTurns = new int[MOST_HOES];
         private int trailLength;
         private int hoes;
@@ -741,7 +742,6 @@ public final class LawnGardeners {
             System.arraycopy(other.hoeHeadings, 0, hoeHeadings, 0, MOST_HOES);
             System.arraycopy(other.hoeGoings, 0, hoeGoings, 0, MOST_HOES);
             System.arraycopy(other.hoeMeetings, 0, hoeMeetings, 0, MOST_HOES);
-            System.arraycopy(other.latestTurns, 0, latestTurns, 0, MOST_HOES);
             trailLength = other.trailLength;
             hoes = other.hoes;
             many = other.many;
@@ -798,7 +798,6 @@ public final class LawnGardeners {
             hoeHeadings[hoe] = heading;
             hoeGoings[hoe] = 0;
             hoeMeetings[hoe] = 0;
-            latestTurns[hoe] = NO_TURN;
             hoes++;
             return hoe;
         }
@@ -812,7 +811,6 @@ public final class LawnGardeners {
                 hoeHeadings[later - 1] = hoeHeadings[later];
                 hoeGoings[later - 1] = hoeGoings[later];
                 hoeMeetings[later - 1] = hoeMeetings[later];
-                latestTurns[later - 1] = latestTurns[later];
             }
             hoes--;
             return hoes;

@@ -196,7 +196,7 @@ public final class EdgesChangesTest {
         Lawns.unchanged("38: no change", Check.NOT_NOW, LawnGardeners::new, lawn -> lawn.undo());
         Supplier<LawnGardeners> undone = () -> {
             LawnGardeners lawn = Lawns.some();
-            while (lawn.account(10) > 0) {
+            for (int round = 0; round < 8 && lawn.account(10) > 0; round++) {
                 lawn.undo();
             }
             return lawn;

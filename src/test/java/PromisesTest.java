@@ -1,11 +1,5 @@
 /** Each promise of the document by its number: ordinary inputs, the edges and wrong inputs. */
 public final class PromisesTest {
-    private static final String NO_PLACE = "IndexOutOfBoundsException";
-    private static final String NO_NUMBER = "IllegalArgumentException";
-    private static final String REFUSED = "UnsupportedOperationException";
-    private static final String NOTHING = "NoSuchElementException";
-    private static final String NOT_NOW = "IllegalStateException";
-
     public static void main(String[] args) {
         newObject();
         hoe();
@@ -40,23 +34,8 @@ public final class PromisesTest {
         shares();
         undo();
         saveAndRestore();
+        Check.eachPromise(1, 40);
         Check.end();
-    }
-
-    /** A lawn on which hoes go straight on. */
-    private static LawnGardeners straight() {
-        LawnGardeners lawn = new LawnGardeners();
-        lawn.turn(0, 0);
-        lawn.turn(1, 0);
-        return lawn;
-    }
-
-    /** A lawn behind a text. */
-    private static LawnGardeners made(String text) {
-        LawnGardeners lawn = new LawnGardeners();
-        int orders = text.split(";").length;
-        Check.due(text, orders, () -> Check.run(lawn, text));
-        return lawn;
     }
 
     private static void refusedFor(String what, LawnGardeners lawn, int reason, int detail) {
@@ -89,30 +68,30 @@ public final class PromisesTest {
         Check.due("2: row", 8, () -> lawn.hoeOf(1, 0));
         Check.due("2: column", 8, () -> lawn.hoeOf(1, 1));
         Check.due("2: heading", 3, () -> lawn.hoeOf(0, 2));
-        Check.due("2: row below", NO_PLACE, () -> lawn.hoe(9, 0, 0));
-        Check.due("2: row above", NO_PLACE, () -> lawn.hoe(-1, 0, 0));
-        Check.due("2: column to the right", NO_PLACE, () -> lawn.hoe(0, 9, 0));
-        Check.due("2: column to the left", NO_PLACE, () -> lawn.hoe(0, -1, 4));
-        Check.due("2: heading 4", NO_NUMBER, () -> lawn.hoe(0, 0, 4));
-        Check.due("2: heading -1", NO_NUMBER, () -> lawn.hoe(0, 0, -1));
-        Check.due("2: nothing refused so far", NOTHING, () -> lawn.refusal(false));
-        Check.due("2: hoe on the cell", REFUSED, () -> lawn.hoe(8, 8, 1));
+        Check.due("2: row below", Check.NO_PLACE, () -> lawn.hoe(9, 0, 0));
+        Check.due("2: row above", Check.NO_PLACE, () -> lawn.hoe(-1, 0, 0));
+        Check.due("2: column to the right", Check.NO_PLACE, () -> lawn.hoe(0, 9, 0));
+        Check.due("2: column to the left", Check.NO_PLACE, () -> lawn.hoe(0, -1, 4));
+        Check.due("2: heading 4", Check.NO_NUMBER, () -> lawn.hoe(0, 0, 4));
+        Check.due("2: heading -1", Check.NO_NUMBER, () -> lawn.hoe(0, 0, -1));
+        Check.due("2: nothing refused so far", Check.NOTHING, () -> lawn.refusal(false));
+        Check.due("2: hoe on the cell", Check.REFUSED, () -> lawn.hoe(8, 8, 1));
         refusedFor("2: hoe on the cell", lawn, 2, 1);
         lawn.hoe(1, 1, 0);
         Check.due("2: fourth", 3, () -> lawn.hoe(2, 2, 0));
-        Check.due("2: fifth, on a hoe's cell", REFUSED, () -> lawn.hoe(8, 8, 1));
+        Check.due("2: fifth, on a hoe's cell", Check.REFUSED, () -> lawn.hoe(8, 8, 1));
         refusedFor("2: fifth", lawn, 1, 4);
         Check.due("2: still four", 4, () -> lawn.account(0));
     }
 
     private static void drop() {
-        LawnGardeners lawn = straight();
+        LawnGardeners lawn = Lawns.straight();
         lawn.hoe(0, 0, 0);
         lawn.hoe(4, 4, 1);
         lawn.hoe(7, 7, 2);
         lawn.step(2);
-        Check.due("3: no such hoe", NO_PLACE, () -> lawn.drop(3));
-        Check.due("3: hoe -1", NO_PLACE, () -> lawn.drop(-1));
+        Check.due("3: no such hoe", Check.NO_PLACE, () -> lawn.drop(3));
+        Check.due("3: hoe -1", Check.NO_PLACE, () -> lawn.drop(-1));
         Check.due("3: drops", 2, () -> lawn.drop(1));
         Check.due("3: later one's row", 0, () -> lawn.hoeOf(1, 0));
         Check.due("3: later one's column", 7, () -> lawn.hoeOf(1, 1));
@@ -126,9 +105,9 @@ public final class PromisesTest {
 
     private static void colours() {
         LawnGardeners lawn = new LawnGardeners();
-        Check.due("4: too few", NO_NUMBER, () -> lawn.colours(1));
-        Check.due("4: too many", NO_NUMBER, () -> lawn.colours(5));
-        Check.due("4: so already", REFUSED, () -> lawn.colours(2));
+        Check.due("4: too few", Check.NO_NUMBER, () -> lawn.colours(1));
+        Check.due("4: too many", Check.NO_NUMBER, () -> lawn.colours(5));
+        Check.due("4: so already", Check.REFUSED, () -> lawn.colours(2));
         refusedFor("4: so already", lawn, 3, 2);
         Check.due("4: four", 0, () -> lawn.colours(4));
         lawn.paint(0, 0, 3);
@@ -144,11 +123,11 @@ public final class PromisesTest {
 
     private static void turn() {
         LawnGardeners lawn = new LawnGardeners();
-        Check.due("5: colour 4", NO_NUMBER, () -> lawn.turn(4, 0));
-        Check.due("5: colour -1", NO_NUMBER, () -> lawn.turn(-1, 0));
-        Check.due("5: turn 4", NO_NUMBER, () -> lawn.turn(0, 4));
-        Check.due("5: turn -1", NO_NUMBER, () -> lawn.turn(0, -1));
-        Check.due("5: so already", REFUSED, () -> lawn.turn(1, 2));
+        Check.due("5: colour 4", Check.NO_NUMBER, () -> lawn.turn(4, 0));
+        Check.due("5: colour -1", Check.NO_NUMBER, () -> lawn.turn(-1, 0));
+        Check.due("5: turn 4", Check.NO_NUMBER, () -> lawn.turn(0, 4));
+        Check.due("5: turn -1", Check.NO_NUMBER, () -> lawn.turn(0, -1));
+        Check.due("5: so already", Check.REFUSED, () -> lawn.turn(1, 2));
         refusedFor("5: so already", lawn, 3, 2);
         Check.due("5: turn before", 1, () -> lawn.turn(0, 3));
         Check.due("5: turn before that", 3, () -> lawn.turn(0, 2));
@@ -160,11 +139,11 @@ public final class PromisesTest {
 
     private static void paint() {
         LawnGardeners lawn = new LawnGardeners();
-        Check.due("6: no cell, no colour", NO_PLACE, () -> lawn.paint(9, 0, 7));
-        Check.due("6: no column", NO_PLACE, () -> lawn.paint(0, -1, 0));
-        Check.due("6: no colour now", NO_NUMBER, () -> lawn.paint(0, 0, 2));
-        Check.due("6: colour -1", NO_NUMBER, () -> lawn.paint(0, 0, -1));
-        Check.due("6: so already", REFUSED, () -> lawn.paint(0, 0, 0));
+        Check.due("6: no cell, no colour", Check.NO_PLACE, () -> lawn.paint(9, 0, 7));
+        Check.due("6: no column", Check.NO_PLACE, () -> lawn.paint(0, -1, 0));
+        Check.due("6: no colour now", Check.NO_NUMBER, () -> lawn.paint(0, 0, 2));
+        Check.due("6: colour -1", Check.NO_NUMBER, () -> lawn.paint(0, 0, -1));
+        Check.due("6: so already", Check.REFUSED, () -> lawn.paint(0, 0, 0));
         refusedFor("6: so already", lawn, 3, 0);
         Check.due("6: paints", 0, () -> lawn.paint(3, 5, 1));
         Check.due("6: painted", 1, () -> lawn.at(3, 5));
@@ -177,9 +156,9 @@ public final class PromisesTest {
 
     private static void manner() {
         LawnGardeners lawn = new LawnGardeners();
-        Check.due("7: manner 3", NO_NUMBER, () -> lawn.manner(3));
-        Check.due("7: manner -1", NO_NUMBER, () -> lawn.manner(-1));
-        Check.due("7: so already", REFUSED, () -> lawn.manner(0));
+        Check.due("7: manner 3", Check.NO_NUMBER, () -> lawn.manner(3));
+        Check.due("7: manner -1", Check.NO_NUMBER, () -> lawn.manner(-1));
+        Check.due("7: so already", Check.REFUSED, () -> lawn.manner(0));
         refusedFor("7: so already", lawn, 3, 0);
         Check.due("7: manner before", 0, () -> lawn.manner(2));
         Check.due("7: manner before that", 2, () -> lawn.manner(1));
@@ -187,7 +166,7 @@ public final class PromisesTest {
     }
 
     private static void lookAtCells() {
-        LawnGardeners lawn = straight();
+        LawnGardeners lawn = Lawns.straight();
         lawn.hoe(0, 8, 1);
         lawn.hoe(8, 0, 2);
         lawn.step(1);
@@ -197,15 +176,15 @@ public final class PromisesTest {
         Check.due("10: none", 0, () -> lawn.on(0, 8));
         int[][] wrong = {{-1, 0}, {9, 0}, {0, -1}, {0, 9}, {Integer.MIN_VALUE, 0}, {0, Integer.MAX_VALUE}};
         for (int[] cell : wrong) {
-            Check.due("8: no such cell", NO_PLACE, () -> lawn.at(cell[0], cell[1]));
-            Check.due("10: no such cell", NO_PLACE, () -> lawn.on(cell[0], cell[1]));
-            Check.due("15: no such cell", NO_PLACE, () -> lawn.painted(cell[0], cell[1]));
-            Check.due("19: no such cell", NO_PLACE, () -> lawn.field(cell[0], cell[1]));
+            Check.due("8: no such cell", Check.NO_PLACE, () -> lawn.at(cell[0], cell[1]));
+            Check.due("10: no such cell", Check.NO_PLACE, () -> lawn.on(cell[0], cell[1]));
+            Check.due("15: no such cell", Check.NO_PLACE, () -> lawn.painted(cell[0], cell[1]));
+            Check.due("19: no such cell", Check.NO_PLACE, () -> lawn.field(cell[0], cell[1]));
         }
     }
 
     private static void hoeOf() {
-        LawnGardeners lawn = straight();
+        LawnGardeners lawn = Lawns.straight();
         lawn.hoe(2, 3, 1);
         lawn.hoe(2, 4, 3);
         lawn.step(1);
@@ -215,17 +194,17 @@ public final class PromisesTest {
             Check.due("9: number " + what, due[what], () -> lawn.hoeOf(0, it));
         }
         Check.due("9: the other finds nobody where the first was", 0, () -> lawn.hoeOf(1, 4));
-        Check.due("9: what 5", NO_NUMBER, () -> lawn.hoeOf(0, 5));
-        Check.due("9: what -1", NO_NUMBER, () -> lawn.hoeOf(0, -1));
-        Check.due("9: no such hoe", NO_PLACE, () -> lawn.hoeOf(2, 9));
-        Check.due("9: hoe -1", NO_PLACE, () -> lawn.hoeOf(-1, 0));
+        Check.due("9: what 5", Check.NO_NUMBER, () -> lawn.hoeOf(0, 5));
+        Check.due("9: what -1", Check.NO_NUMBER, () -> lawn.hoeOf(0, -1));
+        Check.due("9: no such hoe", Check.NO_PLACE, () -> lawn.hoeOf(2, 9));
+        Check.due("9: hoe -1", Check.NO_PLACE, () -> lawn.hoeOf(-1, 0));
     }
 
     private static void step() {
         LawnGardeners lawn = new LawnGardeners();
-        Check.due("11: no steps, no hoes", NO_NUMBER, () -> lawn.step(0));
-        Check.due("11: too many", NO_NUMBER, () -> lawn.step(41));
-        Check.due("11: no hoes", REFUSED, () -> lawn.step(40));
+        Check.due("11: no steps, no hoes", Check.NO_NUMBER, () -> lawn.step(0));
+        Check.due("11: too many", Check.NO_NUMBER, () -> lawn.step(41));
+        Check.due("11: no hoes", Check.REFUSED, () -> lawn.step(40));
         refusedFor("11: no hoes", lawn, 4, 0);
         lawn.hoe(0, 0, 0);
         Check.due("11: one step", 1, () -> lawn.step(1));
@@ -244,7 +223,7 @@ public final class PromisesTest {
         Check.due("11: forty steps of two hoes", 80, () -> lawn.step(40));
         lawn.drop(0);
         lawn.drop(0);
-        Check.due("11: no hoes any more", REFUSED, () -> lawn.step(1));
+        Check.due("11: no hoes any more", Check.REFUSED, () -> lawn.step(1));
         refusedFor("11: no hoes any more", lawn, 4, 43);
     }
 
@@ -274,7 +253,7 @@ public final class PromisesTest {
         Check.due("11: waits, and has turned first", 0, () -> turned.hoeOf(0, 2));
         Check.due("11: waits, and is on its cell", 1, () -> turned.on(4, 4));
         Check.due("11: waits, and has painted first", 1, () -> turned.painted(4, 4));
-        LawnGardeners pair = straight();
+        LawnGardeners pair = Lawns.straight();
         pair.manner(2);
         pair.hoe(4, 4, 1);
         pair.hoe(4, 5, 0);
@@ -286,7 +265,7 @@ public final class PromisesTest {
 
     /** Two hoes side by side that go towards one another on the row 0. */
     private static LawnGardeners facing(int manner) {
-        LawnGardeners lawn = straight();
+        LawnGardeners lawn = Lawns.straight();
         if (manner != 0) {
             lawn.manner(manner);
         }
@@ -296,7 +275,7 @@ public final class PromisesTest {
     }
 
     private static void groups() {
-        LawnGardeners lawn = straight();
+        LawnGardeners lawn = Lawns.straight();
         lawn.hoe(0, 4, 0);
         lawn.hoe(8, 3, 1);
         lawn.hoe(7, 4, 2);
@@ -314,7 +293,7 @@ public final class PromisesTest {
 
     /** A hoe that comes to a cell with two others turns back all three. */
     private static void turnBackAll() {
-        LawnGardeners lawn = straight();
+        LawnGardeners lawn = Lawns.straight();
         lawn.hoe(2, 5, 2);
         lawn.hoe(4, 4, 1);
         lawn.hoe(4, 6, 3);
@@ -332,8 +311,8 @@ public final class PromisesTest {
     }
 
     private static void back() {
-        LawnGardeners lawn = straight();
-        Check.due("12: no step", REFUSED, lawn::back);
+        LawnGardeners lawn = Lawns.straight();
+        Check.due("12: no step", Check.REFUSED, lawn::back);
         refusedFor("12: no step", lawn, 5, 0);
         lawn.hoe(4, 4, 1);
         lawn.hoe(4, 5, 3);
@@ -351,7 +330,7 @@ public final class PromisesTest {
         Check.due("12: the last", 0, lawn::back);
         Check.due("12: heading", 3, () -> lawn.hoeOf(1, 2));
         Check.due("12: lawn", 81, () -> lawn.count(0));
-        Check.due("12: no more", REFUSED, lawn::back);
+        Check.due("12: no more", Check.REFUSED, lawn::back);
         refusedFor("12: no more", lawn, 5, 3);
         lawn.step(40);
         Check.due("12: thirty at most", 30, () -> lawn.account(4));
@@ -359,7 +338,7 @@ public final class PromisesTest {
             Check.due("12: left", left, lawn::back);
         }
         Check.due("12: the oldest ten stay", 10, () -> lawn.account(3));
-        Check.due("12: no thirty-first", REFUSED, lawn::back);
+        Check.due("12: no thirty-first", Check.REFUSED, lawn::back);
         refusedFor("12: no thirty-first", lawn, 5, 33);
         lawn.step(29);
         lawn.step(1);
@@ -375,8 +354,8 @@ public final class PromisesTest {
         for (int change = 0; change < changes.length; change++) {
             lawn.step(2);
             Check.due("12: two ahead of " + changes[change], 2, () -> lawn.account(4));
-            Check.due("12: refused changes forget nothing", REFUSED, () -> lawn.turn(2, 0));
-            Check.due("12: nor do wrong ones", NO_NUMBER, () -> lawn.colours(9));
+            Check.due("12: refused changes forget nothing", Check.REFUSED, () -> lawn.turn(2, 0));
+            Check.due("12: nor do wrong ones", Check.NO_NUMBER, () -> lawn.colours(9));
             switch (change) {
                 case 0: lawn.hoe(0, 0, 0); break;
                 case 1: lawn.drop(1); break;
@@ -396,12 +375,12 @@ public final class PromisesTest {
 
     private static void isInverse() {
         LawnGardeners lawn = new LawnGardeners();
-        Check.due("13: no step", NOTHING, lawn::isInverse);
+        Check.due("13: no step", Check.NOTHING, lawn::isInverse);
         lawn.colours(4);
         lawn.turn(2, 3);
         lawn.hoe(4, 4, 0);
         lawn.hoe(4, 5, 3);
-        Check.due("13: still no step", NOTHING, lawn::isInverse);
+        Check.due("13: still no step", Check.NOTHING, lawn::isInverse);
         for (int i = 0; i < 30; i++) {
             lawn.step(1);
             Check.due("13: step " + i, true, lawn::isInverse);
@@ -411,34 +390,34 @@ public final class PromisesTest {
             Check.due("13: back " + i, true, lawn::isInverse);
         }
         lawn.back();
-        Check.due("13: none left", NOTHING, lawn::isInverse);
+        Check.due("13: none left", Check.NOTHING, lawn::isInverse);
         LawnGardeners wait = facing(1);
         wait.step(1);
         Check.due("13: by the manner 1", false, wait::isInverse);
         LawnGardeners turnBack = facing(2);
         turnBack.step(1);
         Check.due("13: by the manner 2", false, turnBack::isInverse);
-        LawnGardeners apart = straight();
+        LawnGardeners apart = Lawns.straight();
         apart.manner(1);
         apart.hoe(4, 4, 1);
         apart.step(1);
         Check.due("13: by the manner 1 without a meeting", true, apart::isInverse);
-        LawnGardeners coloursFit = made("t0=L;t1=U;h45u;h54r;h53d;h33r;s1;m2;s1");
+        LawnGardeners coloursFit = Lawns.made("t0=L;t1=U;h45u;h54r;h53d;h33r;s1;m2;s1");
         Check.due("13: the colours alone fit", false, coloursFit::isInverse);
-        LawnGardeners headingsFit = made("t0=U;t1=N;h35u;h45r;h43r;h33d;s3;m2;s1");
+        LawnGardeners headingsFit = Lawns.made("t0=U;t1=N;h35u;h45r;h43r;h33d;s3;m2;s1");
         Check.due("13: the colours and headings alone fit", false, headingsFit::isInverse);
     }
 
     private static void trail() {
-        LawnGardeners lawn = straight();
-        Check.due("14: empty", NOTHING, () -> lawn.trail(0));
+        LawnGardeners lawn = Lawns.straight();
+        Check.due("14: empty", Check.NOTHING, () -> lawn.trail(0));
         lawn.hoe(0, 0, 1);
         lawn.step(9);
         Check.due("14: nine cells", 9, () -> lawn.account(8));
         Check.due("14: the latest", 8, () -> lawn.trail(0));
         Check.due("14: the first", 0, () -> lawn.trail(8));
-        Check.due("14: no such place", NOTHING, () -> lawn.trail(9));
-        Check.due("14: place -1", NOTHING, () -> lawn.trail(-1));
+        Check.due("14: no such place", Check.NOTHING, () -> lawn.trail(9));
+        Check.due("14: place -1", Check.NOTHING, () -> lawn.trail(-1));
         lawn.step(1);
         Check.due("14: each once", 9, () -> lawn.account(8));
         Check.due("14: painted again", 0, () -> lawn.trail(0));
@@ -450,11 +429,11 @@ public final class PromisesTest {
         Check.due("14: of the second hoe", 48, () -> lawn.trail(0));
         Check.due("14: of the first hoe", 4, () -> lawn.trail(1));
         Check.due("14: the twelfth", 6, () -> lawn.trail(11));
-        Check.due("14: no thirteenth", NOTHING, () -> lawn.trail(12));
+        Check.due("14: no thirteenth", Check.NOTHING, () -> lawn.trail(12));
     }
 
     private static void painted() {
-        LawnGardeners lawn = straight();
+        LawnGardeners lawn = Lawns.straight();
         lawn.hoe(0, 0, 1);
         lawn.step(19);
         Check.due("15: three times", 3, () -> lawn.painted(0, 0));
@@ -488,10 +467,10 @@ public final class PromisesTest {
         Check.due("19: not across corners", 1, () -> lawn.field(1, 1));
         Check.due("19: of the colour 0", 75, () -> lawn.field(8, 8));
         for (int colour : new int[] {-1, 4, Integer.MAX_VALUE, Integer.MIN_VALUE}) {
-            Check.due("16: no colour", NO_NUMBER, () -> lawn.count(colour));
-            Check.due("17: no colour", NO_NUMBER, () -> lawn.fields(colour));
-            Check.due("18: no colour", NO_NUMBER, () -> lawn.fieldsAgain(colour));
-            Check.due("20: no colour", NO_NUMBER, () -> lawn.greatest(colour));
+            Check.due("16: no colour", Check.NO_NUMBER, () -> lawn.count(colour));
+            Check.due("17: no colour", Check.NO_NUMBER, () -> lawn.fields(colour));
+            Check.due("18: no colour", Check.NO_NUMBER, () -> lawn.fieldsAgain(colour));
+            Check.due("20: no colour", Check.NO_NUMBER, () -> lawn.greatest(colour));
         }
         snake();
     }
@@ -515,26 +494,26 @@ public final class PromisesTest {
     }
 
     private static void willBe() {
-        LawnGardeners lawn = straight();
+        LawnGardeners lawn = Lawns.straight();
         lawn.hoe(4, 4, 1);
         Check.due("21: now", 40, () -> lawn.willBe(0, 0));
         Check.due("21: next", 41, () -> lawn.willBe(0, 1));
         Check.due("21: over the end", 36, () -> lawn.willBe(0, 5));
         Check.due("21: at the most", 36 + (4 + 200) % 9, () -> lawn.willBe(0, 200));
-        Check.due("21: too many", NO_NUMBER, () -> lawn.willBe(0, 201));
-        Check.due("21: too few", NO_NUMBER, () -> lawn.willBe(0, -1));
-        Check.due("21: no hoe", NO_PLACE, () -> lawn.willBe(1, 201));
-        Check.due("21: hoe -1", NO_PLACE, () -> lawn.willBe(-1, 0));
+        Check.due("21: too many", Check.NO_NUMBER, () -> lawn.willBe(0, 201));
+        Check.due("21: too few", Check.NO_NUMBER, () -> lawn.willBe(0, -1));
+        Check.due("21: no hoe", Check.NO_PLACE, () -> lawn.willBe(1, 201));
+        Check.due("21: hoe -1", Check.NO_PLACE, () -> lawn.willBe(-1, 0));
         Check.due("21: nothing moved", 4, () -> lawn.hoeOf(0, 1));
         Check.due("21: nothing painted", 81, () -> lawn.count(0));
     }
 
     private static void willMeet() {
-        LawnGardeners lawn = straight();
+        LawnGardeners lawn = Lawns.straight();
         Check.due("22: no hoes", 0, () -> lawn.willMeet(200));
-        Check.due("22: too many", NO_NUMBER, () -> lawn.willMeet(201));
-        Check.due("22: too few", NO_NUMBER, () -> lawn.willMeet(-1));
-        Check.due("23: no hoes", NOTHING, lawn::meetIn);
+        Check.due("22: too many", Check.NO_NUMBER, () -> lawn.willMeet(201));
+        Check.due("22: too few", Check.NO_NUMBER, () -> lawn.willMeet(-1));
+        Check.due("23: no hoes", Check.NOTHING, lawn::meetIn);
         lawn.hoe(0, 0, 1);
         lawn.hoe(0, 4, 3);
         lawn.step(1);
@@ -547,51 +526,51 @@ public final class PromisesTest {
         Check.due("22: that one, too", 1, () -> lawn.willMeet(5));
         lawn.drop(1);
         lawn.hoe(1, 0, 1);
-        Check.due("23: never", NOTHING, lawn::meetIn);
+        Check.due("23: never", Check.NOTHING, lawn::meetIn);
         LawnGardeners wait = facing(1);
         Check.due("22: by the manner 1", 400, () -> wait.willMeet(200));
-        LawnGardeners late = made("k3;t0=L;h14l;h25r;s37");
+        LawnGardeners late = Lawns.made("k3;t0=L;h14l;h25r;s37");
         Check.due("23: in the last of 200 steps", 200, late::meetIn);
         Check.due("22: in that step", 0, () -> late.willMeet(199));
         Check.due("22: with that step", true, () -> late.willMeet(200) > 0);
         late.back();
-        Check.due("23: a step too late", NOTHING, late::meetIn);
+        Check.due("23: a step too late", Check.NOTHING, late::meetIn);
         Check.due("22: a step too late", 0, () -> late.willMeet(200));
     }
 
     private static void isBackIn() {
         LawnGardeners lawn = new LawnGardeners();
-        Check.due("24: no hoe", NO_PLACE, () -> lawn.isBackIn(0));
+        Check.due("24: no hoe", Check.NO_PLACE, () -> lawn.isBackIn(0));
         lawn.hoe(4, 4, 0);
         Check.due("24: round four cells", 4, () -> lawn.isBackIn(0));
-        Check.due("24: hoe 1", NO_PLACE, () -> lawn.isBackIn(1));
-        Check.due("24: hoe -1", NO_PLACE, () -> lawn.isBackIn(-1));
-        LawnGardeners straight = straight();
+        Check.due("24: hoe 1", Check.NO_PLACE, () -> lawn.isBackIn(1));
+        Check.due("24: hoe -1", Check.NO_PLACE, () -> lawn.isBackIn(-1));
+        LawnGardeners straight = Lawns.straight();
         straight.hoe(4, 4, 0);
         Check.due("24: round the lawn", 9, () -> straight.isBackIn(0));
         LawnGardeners wait = facing(1);
         Check.due("24: a hoe that waits", 1, () -> wait.isBackIn(0));
-        LawnGardeners late = made("k4;t0=L;t3=U;h06u;s30");
+        LawnGardeners late = Lawns.made("k4;t0=L;t3=U;h06u;s30");
         Check.due("24: behind the last of 200 steps", 200, () -> late.isBackIn(0));
-        LawnGardeners tooLate = made("t0=N;t1=R;h83l;h42u;s39");
+        LawnGardeners tooLate = Lawns.made("t0=N;t1=R;h83l;h42u;s39");
         int there = tooLate.willBe(0, 0);
-        Check.due("24: behind 201 steps", NOTHING, () -> tooLate.isBackIn(0));
+        Check.due("24: behind 201 steps", Check.NOTHING, () -> tooLate.isBackIn(0));
         tooLate.step(1);
         Check.due("21: there behind 201 steps", there, () -> tooLate.willBe(0, 200));
     }
 
     private static void highway() {
         LawnGardeners lawn = new LawnGardeners();
-        Check.due("25: no hoe", NO_PLACE, () -> lawn.highway(0));
+        Check.due("25: no hoe", Check.NO_PLACE, () -> lawn.highway(0));
         lawn.turn(1, 1);
         lawn.hoe(4, 4, 0);
         Check.due("25: always the same turn", 1, () -> lawn.highway(0));
-        Check.due("25: hoe 1", NO_PLACE, () -> lawn.highway(1));
+        Check.due("25: hoe 1", Check.NO_PLACE, () -> lawn.highway(1));
         lawn.turn(1, 2);
         Check.due("25: the next three steps are enough for 1", 1, () -> lawn.highway(0));
         lawn.step(40);
         lawn.step(3);
-        Check.due("25: none", NOTHING, () -> lawn.highway(0));
+        Check.due("25: none", Check.NOTHING, () -> lawn.highway(0));
         LawnGardeners stairs = new LawnGardeners();
         stairs.hoe(4, 4, 0);
         stairs.paint(4, 5, 1);
@@ -601,15 +580,15 @@ public final class PromisesTest {
         stairs.paint(2, 7, 0);
         Check.due("25: not 2, the last turn is another", true,
             () -> !"2".equals(Check.answer(() -> stairs.highway(0))));
-        LawnGardeners longest = made("t0=U;t1=N;m1;p87=1;h47d;h07d;s29");
+        LawnGardeners longest = Lawns.made("t0=U;t1=N;m1;p87=1;h47d;h07d;s29");
         Check.due("25: the longest", 40, () -> longest.highway(0));
-        LawnGardeners tooLong = made("k3;t0=U;t2=L;m2;h03l;h61r;h02l;h70d;s36");
-        Check.due("25: one of 41 is too long", NOTHING, () -> tooLong.highway(0));
+        LawnGardeners tooLong = Lawns.made("k3;t0=U;t2=L;m2;h03l;h61r;h02l;h70d;s36");
+        Check.due("25: one of 41 is too long", Check.NOTHING, () -> tooLong.highway(0));
     }
 
     private static void ranked() {
-        LawnGardeners lawn = straight();
-        Check.due("26: no hoes", NOTHING, () -> lawn.ranked(0));
+        LawnGardeners lawn = Lawns.straight();
+        Check.due("26: no hoes", Check.NOTHING, () -> lawn.ranked(0));
         lawn.hoe(0, 0, 1);
         lawn.hoe(2, 0, 1);
         lawn.step(2);
@@ -627,8 +606,8 @@ public final class PromisesTest {
         lawn.hoe(0, 0, 1);
         Check.due("26: alike", 0, () -> lawn.ranked(0));
         Check.due("26: the last", 3, () -> lawn.ranked(3));
-        Check.due("26: no such place", NOTHING, () -> lawn.ranked(4));
-        Check.due("26: place -1", NOTHING, () -> lawn.ranked(-1));
+        Check.due("26: no such place", Check.NOTHING, () -> lawn.ranked(4));
+        Check.due("26: place -1", Check.NOTHING, () -> lawn.ranked(-1));
         LawnGardeners late = facing(2);
         late.step(1);
         Check.due("26: the most first", 1, () -> late.ranked(0));
@@ -636,8 +615,8 @@ public final class PromisesTest {
     }
 
     private static void lines() {
-        LawnGardeners lawn = straight();
-        Check.due("29: empty at first", NO_PLACE, () -> lawn.character(0));
+        LawnGardeners lawn = Lawns.straight();
+        Check.due("29: empty at first", Check.NO_PLACE, () -> lawn.character(0));
         lawn.colours(4);
         lawn.hoe(2, 3, 1);
         lawn.hoe(2, 5, 3);
@@ -645,26 +624,26 @@ public final class PromisesTest {
         lawn.paint(2, 8, 3);
         Check.due("27: length", 9, () -> lawn.rowLine(2));
         Check.due("27: the row 2", "100A0B003", () -> Check.line(lawn, 9));
-        Check.due("27: no row 9", NO_PLACE, () -> lawn.rowLine(9));
-        Check.due("27: no row -1", NO_PLACE, () -> lawn.rowLine(-1));
+        Check.due("27: no row 9", Check.NO_PLACE, () -> lawn.rowLine(9));
+        Check.due("27: no row -1", Check.NO_PLACE, () -> lawn.rowLine(-1));
         lawn.step(1);
         Check.due("27: the line stays", "100A0B003", () -> Check.line(lawn, 9));
         lawn.rowLine(2);
         Check.due("27: the lowest hoe of two", "1001A1003", () -> Check.line(lawn, 9));
-        Check.due("29: no index 9", NO_PLACE, () -> lawn.character(9));
-        Check.due("29: no index -1", NO_PLACE, () -> lawn.character(-1));
+        Check.due("29: no index 9", Check.NO_PLACE, () -> lawn.character(9));
+        Check.due("29: no index -1", Check.NO_PLACE, () -> lawn.character(-1));
         lawn.turn(1, 1);
         lawn.turn(2, 2);
         lawn.turn(3, 3);
         Check.due("28: length", 4, lawn::turnLine);
         Check.due("28: turns", "NRLU", () -> Check.line(lawn, 4));
-        Check.due("29: the line is shorter", NO_PLACE, () -> lawn.character(4));
+        Check.due("29: the line is shorter", Check.NO_PLACE, () -> lawn.character(4));
         lawn.colours(3);
         Check.due("28: of the colours that there are", 3, lawn::turnLine);
         lawn.undo();
         lawn.save();
         lawn.restore();
-        Check.due("29: the line is neither undone nor saved", NO_PLACE, () -> lawn.character(3));
+        Check.due("29: the line is neither undone nor saved", Check.NO_PLACE, () -> lawn.character(3));
     }
 
     private static void append() {
@@ -673,9 +652,9 @@ public final class PromisesTest {
             int it = sign;
             Check.due("30: sign " + sign, sign, () -> lawn.append((char) (it * 1000)));
         }
-        Check.due("30: full", NOT_NOW, () -> lawn.append('b'));
+        Check.due("30: full", Check.NOT_NOW, () -> lawn.append('b'));
         Check.due("30: account", 60, () -> lawn.account(9));
-        Check.due("31: no such text", NO_NUMBER, lawn::run);
+        Check.due("31: no such text", Check.NO_NUMBER, lawn::run);
         Check.due("31: empty afterwards", 0, () -> lawn.account(9));
         Check.due("30: again", 1, () -> lawn.append('b'));
         lawn.save();
@@ -717,37 +696,37 @@ public final class PromisesTest {
 
     private static void runRefused() {
         LawnGardeners lawn = new LawnGardeners();
-        Check.due("31: hoe on the cell", REFUSED, () -> Check.run(lawn, "h50u;s1;h51u"));
+        Check.due("31: hoe on the cell", Check.REFUSED, () -> Check.run(lawn, "h50u;s1;h51u"));
         refusedFor("31: hoe on the cell", lawn, 2, 0);
         Check.due("31: no error", -1, lawn::errorPosition);
         Check.due("31: nothing of it is carried out", 0, () -> lawn.account(0));
         Check.due("31: nor painted", 81, () -> lawn.count(0));
-        Check.due("31: no change", NOT_NOW, lawn::undo);
+        Check.due("31: no change", Check.NOT_NOW, lawn::undo);
         Check.due("31: empty afterwards", 0, () -> lawn.account(9));
-        Check.due("31: no hoes", REFUSED, () -> Check.run(lawn, "h00u;s7;x0;s1"));
+        Check.due("31: no hoes", Check.REFUSED, () -> Check.run(lawn, "h00u;s7;x0;s1"));
         refusedFor("31: no hoes, but steps in the text", lawn, 4, 7);
-        Check.due("31: no step left", REFUSED, () -> Check.run(lawn, "h00u;s3;b;b;b;b"));
+        Check.due("31: no step left", Check.REFUSED, () -> Check.run(lawn, "h00u;s3;b;b;b;b"));
         refusedFor("31: no step left, of those in the text", lawn, 5, 3);
-        Check.due("31: five hoes", REFUSED, () -> Check.run(lawn, "h00u;h01u;h02u;h03u;h00u"));
+        Check.due("31: five hoes", Check.REFUSED, () -> Check.run(lawn, "h00u;h01u;h02u;h03u;h00u"));
         refusedFor("31: five hoes", lawn, 1, 4);
         String[] already = {"k3;k3", "t3=R;t3=R", "p88=1;p88=1", "m2;m2"};
         int[] details = {3, 1, 1, 2};
         for (int i = 0; i < already.length; i++) {
             String text = already[i];
-            Check.due("31: " + text, REFUSED, () -> Check.run(lawn, text));
+            Check.due("31: " + text, Check.REFUSED, () -> Check.run(lawn, text));
             refusedFor("31: " + text, lawn, 3, details[i]);
         }
         String[] wrong = {"h90u", "h09u", "x0", "p90=0", "p09=0", "p00=2", "t4=R", "k1", "k5", "m3", "s0", "s41",
             "s99", "h00u;x1", "m1;m3", "h00u;x5;h00u"};
         for (String text : wrong) {
-            Check.due("31: " + text, NO_NUMBER, () -> Check.run(lawn, text));
+            Check.due("31: " + text, Check.NO_NUMBER, () -> Check.run(lawn, text));
             Check.due("32: " + text, -1, lawn::errorPosition);
             Check.due("31: nothing of " + text, 0, () -> lawn.account(0) + lawn.account(2));
         }
         refusedFor("33: the reason stays", lawn, 3, 2);
-        Check.due("31: the first order decides", REFUSED, () -> Check.run(lawn, "k2;x5"));
+        Check.due("31: the first order decides", Check.REFUSED, () -> Check.run(lawn, "k2;x5"));
         refusedFor("31: the first order decides", lawn, 3, 2);
-        Check.due("31: an error ahead of all", NO_NUMBER, () -> Check.run(lawn, "m0;q"));
+        Check.due("31: an error ahead of all", Check.NO_NUMBER, () -> Check.run(lawn, "m0;q"));
         Check.due("32: an error ahead of all", 3, lawn::errorPosition);
         refusedFor("31: an error ahead of all", lawn, 3, 2);
     }
@@ -765,7 +744,7 @@ public final class PromisesTest {
             4, 60, -1, 60, 0, 0, 0, 0};
         for (int i = 0; i < texts.length; i++) {
             String text = texts[i];
-            Check.due("31: " + text, due[i] < 0 ? REFUSED : NO_NUMBER, () -> Check.run(lawn, text));
+            Check.due("31: " + text, due[i] < 0 ? Check.REFUSED : Check.NO_NUMBER, () -> Check.run(lawn, text));
             Check.due("32: " + text, due[i], lawn::errorPosition);
         }
         Check.run(lawn, "hu");
@@ -778,11 +757,11 @@ public final class PromisesTest {
 
     private static void refusal() {
         LawnGardeners lawn = new LawnGardeners();
-        Check.due("33: nothing", NOTHING, () -> lawn.refusal(true));
-        Check.due("33: nothing at all", NOTHING, () -> lawn.refusal(false));
+        Check.due("33: nothing", Check.NOTHING, () -> lawn.refusal(true));
+        Check.due("33: nothing at all", Check.NOTHING, () -> lawn.refusal(false));
         lawn.hoe(0, 0, 0);
         Check.answer(() -> lawn.colours(7));
-        Check.due("33: wrong is not refused", NOTHING, () -> lawn.refusal(false));
+        Check.due("33: wrong is not refused", Check.NOTHING, () -> lawn.refusal(false));
         Check.answer(lawn::back);
         Check.answer(() -> lawn.manner(0));
         refusedFor("33: the latest", lawn, 3, 0);
@@ -805,8 +784,8 @@ public final class PromisesTest {
             int it = what;
             Check.due("34: " + what, due[what], () -> lawn.account(it));
         }
-        Check.due("34: 11", NO_NUMBER, () -> lawn.account(11));
-        Check.due("34: -1", NO_NUMBER, () -> lawn.account(-1));
+        Check.due("34: 11", Check.NO_NUMBER, () -> lawn.account(11));
+        Check.due("34: -1", Check.NO_NUMBER, () -> lawn.account(-1));
         lawn.drop(1);
         Check.due("34: meetings of the hoes that there are", 2, () -> lawn.account(7));
     }
@@ -833,7 +812,7 @@ public final class PromisesTest {
     }
 
     private static void shares() {
-        LawnGardeners lawn = straight();
+        LawnGardeners lawn = Lawns.straight();
         Check.due("36: at first", 0.0, lawn::meanColour);
         Check.due("37: at first", 0f, lawn::paintedShare);
         lawn.colours(4);
@@ -852,7 +831,7 @@ public final class PromisesTest {
 
     private static void undo() {
         LawnGardeners lawn = new LawnGardeners();
-        Check.due("38: nothing", NOT_NOW, lawn::undo);
+        Check.due("38: nothing", Check.NOT_NOW, lawn::undo);
         lawn.hoe(4, 4, 0);
         lawn.hoe(5, 5, 0);
         lawn.drop(1);
@@ -886,7 +865,7 @@ public final class PromisesTest {
         Check.due("38: the colours", 2, () -> lawn.account(1));
         Check.due("38: drop", 0, lawn::undo);
         Check.due("38: two hoes", 2, () -> lawn.account(0));
-        Check.due("38: no ninth", NOT_NOW, lawn::undo);
+        Check.due("38: no ninth", Check.NOT_NOW, lawn::undo);
         LawnGardeners again = new LawnGardeners();
         again.hoe(4, 4, 0);
         again.step(5);
@@ -898,7 +877,7 @@ public final class PromisesTest {
 
     private static void saveAndRestore() {
         LawnGardeners lawn = new LawnGardeners();
-        Check.due("40: no snapshot", NOT_NOW, lawn::restore);
+        Check.due("40: no snapshot", Check.NOT_NOW, lawn::restore);
         lawn.hoe(4, 4, 0);
         lawn.step(5);
         lawn.back();
@@ -915,7 +894,7 @@ public final class PromisesTest {
             int it = what;
             Check.due("40: account " + what, due[what], () -> lawn.account(it));
         }
-        Check.due("40: changes are forgotten", NOT_NOW, lawn::undo);
+        Check.due("40: changes are forgotten", Check.NOT_NOW, lawn::undo);
         Check.due("40: steps can be taken back", 3, lawn::back);
         Check.due("40: it stays", 1, lawn::restore);
         Check.due("40: as it was", 4, () -> lawn.account(4));
